@@ -64,6 +64,9 @@ final class KindsTest {
         pair("OVER to 0, below", Kinds.OVER, 7, -2, -3);
         pair("OVER wraps", Kinds.OVER, MIN, -1, MIN);
         pair("OVER of 0", Kinds.OVER, 0, 5, 0);
+        pair("OVER 1", Kinds.OVER, 9, 1, 9);
+        pair("OVER -1", Kinds.OVER, 9, -1, -9);
+        pair("REST by 1", Kinds.REST, 9, 1, 0);
         pair("REST", Kinds.REST, 7, 2, 1);
         pair("REST of one below 0", Kinds.REST, -7, 2, -1);
         pair("REST by one below 0", Kinds.REST, 7, -2, 1);

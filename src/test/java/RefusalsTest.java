@@ -5,6 +5,8 @@ import java.util.function.Consumer;
 /** A call that throws changes nothing: whatever can be seen of an object is as on one without that call. */
 final class RefusalsTest {
     private static final int[] FAR = {Kinds.MIN, -2, 500, Kinds.MAX};
+    /** A look at more blocks would take an object beyond its 512 calls. */
+    private static final int MOST_SHOWN = 5;
 
     private RefusalsTest() {
     }
@@ -120,6 +122,7 @@ final class RefusalsTest {
             blocks++;
         }
         text.append(" of ").append(blocks);
+        blocks = Math.min(blocks, MOST_SHOWN);
         show(text, x, blocks);
         text.append(" time ").append(x.run(1));
         show(text, x, blocks);

@@ -94,6 +94,13 @@ final class SavingTest {
         Check.same("of one", 1, x.back(1));
         Check.same("output 0 came back", 7, x.out(0));
         Check.same("output 1 stays", 9, x.out(1));
+        BlockPrograms y = new BlockPrograms();
+        y.save();
+        y.block(Kinds.POINT);
+        y.point(0, 6);
+        y.run(1);
+        Check.same("a later block of kind 0", 0, y.back(0));
+        Check.same("its output stays", 6, y.out(0));
     }
 
     private static void blocksOfAnotherKindStay() {
