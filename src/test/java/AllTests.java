@@ -12,8 +12,12 @@ public final class AllTests {
         SavingTest.run();
         KindsTest.run();
         MemoryKindsTest.run();
+        TermsEdgesTest.run();
+        KindEdgesTest.run();
+        PromiseEdgesTest.run();
         RefusalsTest.run();
         AnyCallsTest.run();
+        ModelTest.run();
         if (!Check.close()) {
             System.exit(1);
         }

@@ -22,6 +22,7 @@ final class RefusalsTest {
         }
         aFullObjectStays();
         aRingStays();
+        theEndStays();
     }
 
     private static List<Consumer<BlockPrograms>> refusedCalls() {
@@ -48,11 +49,50 @@ final class RefusalsTest {
             calls.add(x -> x.become(far, 1));
             calls.add(x -> x.become(3, far));
         }
+        addNearest(calls);
         calls.add(x -> x.run(0));
         calls.add(x -> x.run(501));
         calls.add(x -> x.run(Kinds.MIN));
         calls.add(x -> x.run(Kinds.MAX));
         return calls;
+    }
+
+    /** The first wrong value on each side: there are five blocks, three failures and one saving. */
+    private static void addNearest(List<Consumer<BlockPrograms>> calls) {
+        for (int block = -1; block <= 5; block += 6) {
+            int none = block;
+            calls.add(x -> x.wire(none, 0, 0));
+            calls.add(x -> x.numbers(none, 1, 1));
+            calls.add(x -> x.row(none, 1, 1));
+            calls.add(x -> x.safe(none, 1));
+            calls.add(x -> x.hand(none, true, 1));
+            calls.add(x -> x.at(none));
+            calls.add(x -> x.out(none));
+            calls.add(x -> x.state(none, 0));
+            calls.add(x -> x.become(none, 1));
+        }
+        calls.add(x -> x.wire(3, 0, 5));
+        calls.add(x -> x.wire(3, -1, 0));
+        calls.add(x -> x.wire(3, 3, 0));
+        calls.add(x -> x.block(-1));
+        calls.add(x -> x.block(26));
+        calls.add(x -> x.become(3, -1));
+        calls.add(x -> x.become(3, 26));
+        calls.add(x -> x.row(4, -1, 1));
+        calls.add(x -> x.row(4, 8, 1));
+        calls.add(x -> x.row(3, 8, 1));
+        calls.add(x -> x.point(-1, 1));
+        calls.add(x -> x.point(10, 1));
+        calls.add(x -> x.state(3, -1));
+        calls.add(x -> x.state(3, 2));
+        calls.add(x -> x.failed(-1));
+        calls.add(x -> x.failed(4));
+        calls.add(x -> x.failure(-1, 0));
+        calls.add(x -> x.failure(3, 0));
+        calls.add(x -> x.failure(0, -1));
+        calls.add(x -> x.failure(0, 3));
+        calls.add(x -> x.back(-1));
+        calls.add(x -> x.back(1));
     }
 
     private static void aFullObjectStays() {
@@ -63,6 +103,8 @@ final class RefusalsTest {
         Check.refusesState("block 40", () -> x.block(1));
         Check.refusesState("a sixth saving", () -> x.save());
         Check.refusesState("row of no ROW", () -> x.row(3, 1, 1));
+        Check.refusesArgument("a wrong kind, and 40 blocks", () -> x.block(26));
+        Check.refusesArgument("saving 5", () -> x.back(5));
         Check.same("a full object stays", story(twin), story(x));
     }
 
@@ -85,6 +127,25 @@ final class RefusalsTest {
         x.wire(2, 1, 1);
         twin.wire(2, 1, 1);
         Check.same("a ring stays", story(twin), story(x));
+    }
+
+    /** One tick before the end, which both then come to. */
+    private static void theEndStays() {
+        BlockPrograms x = mixed();
+        BlockPrograms twin = mixed();
+        runOn(x);
+        runOn(twin);
+        Check.refusesState("3001", () -> x.run(2));
+        Check.refusesState("3499", () -> x.run(500));
+        Check.refusesArgument("501 ticks before the end", () -> x.run(501));
+        Check.same("the end stays", story(twin), story(x));
+    }
+
+    private static void runOn(BlockPrograms x) {
+        for (int i = 0; i < 5; i++) {
+            x.run(500);
+        }
+        Check.same("one tick before the end", 2999, x.run(496));
     }
 
     /** 0, 1 NUMBERS, 2 ADD in hand, 3 COUNT, 4 ROW that fails; saved, then run on. */
