@@ -17,6 +17,7 @@ public final class AllTests {
         PromiseEdgesTest.run();
         RefusalsTest.run();
         AnyCallsTest.run();
+        ReadmeTest.run();
         ModelTest.run();
         if (!Check.close()) {
             System.exit(1);

@@ -46,6 +46,7 @@ final class KindEdgesTest {
         aSumBecomes0WithBNot0();
         aSinceIsPAtMost();
         aSinceIsPAlwaysIfThatIsBelow0();
+        aSinceGrowsTowardsAPThatHasGrown();
         namedInputsMustBeWired();
         allThreeOfAChoiceAreLookedAtFirst();
         nothingComesBeforeZeroAndBad();
@@ -472,6 +473,18 @@ final class KindEdgesTest {
             Check.same("the first value", value, bench.first());
             Check.same("one more than that", value + 1, bench.numbers(MAX, 0).tick(1));
         }
+    }
+
+    /** "which becomes one more if a is not 0 ... but p at most": also where p has grown, but is still below 0. */
+    private static void aSinceGrowsTowardsAPThatHasGrown() {
+        Bench bench = new Bench(Kinds.SINCE).numbers(-5, 0);
+        bench.tick(1);
+        bench.numbers(-3, 0);
+        Check.same("one more than -5", -4, bench.tick(1));
+        Check.same("one more than -4", -3, bench.tick(1));
+        Check.same("p at most", -3, bench.tick(1));
+        Check.same("a lesser p at once", -9, bench.numbers(-9, 0).tick(1));
+        Check.same("p at once with a 0", -2, bench.numbers(-2, 0).tick(0));
     }
 
     /** "Inputs that its kind names must be wired (else NOTHING)" */
